@@ -573,6 +573,10 @@ public final class PromisesTest {
         due("feign(1, 0, 1)", x.feign(1, 0, 1), 0);
         house(x, "need 13");
         due("feign(0, 0, 0)", x.feign(0, 0, 0), -5);
+        house(x, "need 12");
+        x.set(0, 0, 0b000001111111);
+        due("feign(0, 0, 0): every mark", x.feign(0, 0, 0), 12);
+        due("feign(0, 0, 1)", x.feign(0, 0, 1), 0b111110000000);
         due("feign(0, 0, 2)", x.feign(0, 0, 2), -1);
         due("feign(0, 0, -1)", x.feign(0, 0, -1), -1);
         due("feign(0, 4, 0)", x.feign(0, 4, 0), -1);
@@ -1046,7 +1050,9 @@ public final class PromisesTest {
         due("tape(0, 0, 60)", x.tape(0, 0, 60), 1);
         due("item(0, 59, 1)", x.item(0, 59, 1), 1);
         due("item(0, 60, 1)", x.item(0, 60, 1), -13);
+        due("item(0, 0, 1)", x.item(0, 0, 1), 1);
         due("tape(0, 0, 60)", x.tape(0, 0, 60), 1);
+        due("read(0, 0): all 0 again", x.read(0, 0), 0);
         due("read(0, 59): all 0 again", x.read(0, 59), 0);
         due("tape(0, 2, 0)", x.tape(0, 2, 0), 1);
         due("read(0, 0)", x.read(0, 0), no);
