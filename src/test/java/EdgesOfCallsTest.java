@@ -1126,6 +1126,9 @@ public final class EdgesOfCallsTest {
         z.plan(3, 1);
         dueEnds(z, 0, 0);
         Edges.due(z, 9, "of", 0, 4);
+        Edges.edge(22, "ENDS: TRIES are 0 then, no more and no less");
+        dueEnds(housed(z, "need 4"), 0, 3);
+        dueEnds(housed(z, "need 5"), 0, 0);
     }
 
     private static void dueEnds(GatesBent x, int passed, int bits) {
@@ -1357,6 +1360,29 @@ public final class EdgesOfCallsTest {
             });
             Edges.same(imaged, changed);
         }
+        Edges.edge(27, "THE IMAGE: SEEN, the PLAN, the BOOK, as many rows as there were, but others");
+        Edges.same(imaged, new Edges.State("an image, then other rows", x -> {
+            imaged.run.accept(x);
+            x.see(-1, 0, false);
+            x.plan(-1, 0);
+            x.book(-1, 0);
+            for (int k = 0; k < 3; k++) {
+                x.see(k, k, k != 1);
+                x.book(k + 1, 5 * k);
+            }
+            for (int k = 0; k < 4; k++) {
+                x.plan(3, k);
+            }
+            x.undo();
+        }));
+        Edges.same(imaged, new Edges.State("an image, then SEEN the other way round", x -> {
+            imaged.run.accept(x);
+            x.see(-1, 0, false);
+            x.see(2, 3, false);
+            x.see(0, 1, false);
+            x.see(3, 2, true);
+            x.undo();
+        }));
         Edges.edge(27, "which HOUSE holds: THE IMAGE's; how many there are, THE TEXT, TAPES, THE TRACE stay");
         GatesBent x = Edges.SOME.made();
         x.image();
@@ -1462,6 +1488,27 @@ public final class EdgesOfCallsTest {
         Edges.due(x, 71, "trace", 0);
         Edges.due(x, 10, "trace", 1);
         Edges.due(x, NONE, "trace", 2);
+        Edges.edge(29, "the body of its KIND, or, if that has none, of the next KIND above that has one");
+        int[][][] bodies = {
+            {{10}, {11, 10}, {12, 11, 10}},
+            {{10}, {20, 11, 10}, {12, 20, 11, 10}},
+            {{30, 10}, {11, 30, 10}, {12, 11, 30, 10}},
+            {{10}, {11, 10}, {40, 12, 11, 10, 11, 10}},
+            {{50, 10}, {51, 20, 11, 50, 10}, {12, 51, 20, 11, 50, 10}},
+            {{30, 10}, {11, 30, 10}, {60, 12, 11, 30, 10}},
+            {{71, 10}, {70, 11, 71, 10, 10}, tells}};
+        for (int kind = 0; kind < 7; kind++) {
+            GatesBent y = new GatesBent();
+            y.comer(kind, 0, 0, 0);
+            for (int act = 0; act < 3; act++) {
+                y.act(0, act, 3);
+                Edges.due(y, bodies[kind][act].length, "count", 6);
+                for (int i = 0; i < bodies[kind][act].length; i++) {
+                    Edges.due(y, bodies[kind][act][i], "trace", i);
+                }
+                Edges.due(y, NONE, "trace", bodies[kind][act].length);
+            }
+        }
         Edges.edge(29, "THE TRACE is kept, whatever else is called");
         x.pass(1);
         x.undo();

@@ -461,7 +461,7 @@ public final class EdgesOfHousesTest {
         GatesBent x = held("help 3 p=0;need 4;age 5");
         x.comer(0, 0, 0, 0);
         x.teach(0, 0);
-        String[] faults = {"", "x", "need 7;age 8;", "help 9 p=0;x", "hinder 9 p=0;need 1 ", TEN_AGES + ";"};
+        String[] faults = {"", "x", "need 7;age 8;", "help 9 p=0;x", "hinder 7 p=0;need 1 ", TEN_AGES + ";"};
         for (String text : faults) {
             Edges.due("is a FAULT: " + text, Edges.house(x, text) <= -10 ? 1 : 0, 1);
             Edges.due(x, 0, "count", 5);
@@ -475,6 +475,15 @@ public final class EdgesOfHousesTest {
         Edges.due(x, 10, "told", 1);
         Edges.due(x, 0, "told", 2);
         Edges.due(x, 13, "like", 0, 0, 0);
+        Edges.edge(10, "THE TEXT, which is empty then: nothing of a longer one counts for a shorter one");
+        GatesBent z = held("help 11 p=11|p=11");
+        Edges.dueHouse(z, -13, "hel");
+        Edges.dueHouse(z, -10, "");
+        Edges.dueHouse(z, -15, "help ");
+        Edges.dueHouse(z, -23, "help 11 p=11|");
+        Edges.dueHouse(z, 1, "need 12;need 34");
+        Edges.dueHouse(z, 2, "need 5");
+        Edges.due(z, 5, "told", 1);
         Edges.edge(10, "a FAULT ahead of any HOUSE: there are no CLAUSES then");
         GatesBent y = new GatesBent();
         Edges.dueHouse(y, -31, "need 1;age 1;help 1 p");
