@@ -1220,6 +1220,14 @@ public final class EdgesOfCallsTest {
             x.tape(5, t, 0);
             Edges.due(x, CAST, "judge", 5, 0);
         }
+        Edges.edge(25, "CAST: the first that the call's words name: ahead of -5, there are no COMERS");
+        GatesBent nobody = new GatesBent();
+        for (int t : new int[] {0, 2, 3, 4}) {
+            nobody.tape(t, t, 2 * t);
+            for (int i : new int[] {-1, 0, 60, MAX, MIN}) {
+                Edges.due(nobody, CAST, "judge", t, i);
+            }
+        }
         Edges.edge(25, "-5: there are no COMERS (wherever the place is, also if the TAPE holds nothing)");
         GatesBent x = new GatesBent();
         x.tape(1, 1, 3);
